@@ -725,7 +725,7 @@ public final class FallingWords {
             tooMany = false;
             ends = 0;
             add(word);
-            for (int i = 0; i < size && !tooMany; i++) {
+            for (int i = 0; i < size && i < MOST_REACHED && !tooMany; i++) {
                 addAllFrom(words[i], rules);
             }
         }
@@ -957,12 +957,10 @@ public final class FallingWords {
         /** Keeps one letter more than a word may have, so that it is still seen to be too long. */
         private int readWord() {
             int word = Words.EMPTY;
-            int letters = 0;
-            for (int i = at; i < size && here() >= 'a' && here() <= 'd'; i++) {
+            for (int letters = 0; at < size && here() >= 'a' && here() <= 'd'; letters++) {
                 if (letters <= MOST_LETTERS) {
                     word = Words.withLetter(word, here() - 'a');
                 }
-                letters++;
                 at++;
             }
             return word;

@@ -16,6 +16,7 @@ public final class StoreTest {
         test.countOfOverlaps();
         test.undo();
         test.undoRestoresAll();
+        test.changeBehindUndo();
         test.undoKeepsText();
         test.check.finish("StoreTest");
     }
@@ -162,24 +163,20 @@ public final class StoreTest {
         check.promise(15);
         FallingWords words = new FallingWords();
         check.due("undo() of a new object", words.undo(), Check.IMPOSSIBLE);
-        words.way(1);
-        words.way(2);
-        words.way(0);
-        words.way(2);
-        check.due("count(9)", words.count(9), 4);
-        words.way(1);
-        check.due("count(9) of five", words.count(9), 4);
-        int[] ways = {2, 0, 2, 1};
-        for (int i = 0; i < 4; i++) {
-            check.due("undo()", words.undo(), 3 - i);
-            check.due("count(2)", words.count(2), ways[i]);
-            check.due("count(9)", words.count(9), 3 - i);
+        for (int letters = 1; letters <= 6; letters++) {
+            Check.play(words, "=" + "abcdab".substring(0, letters) + ";");
+            check.due("count(9)", words.count(9), Math.min(letters, 4));
+        }
+        for (int left = 3; left >= 0; left--) {
+            check.due("undo()", words.undo(), left);
+            check.due("count(1)", words.count(1), 2 + left);
+            check.due("count(9)", words.count(9), left);
         }
         check.due("undo() of none", words.undo(), Check.IMPOSSIBLE);
-        check.due("count(2) behind an error", words.count(2), 1);
-        words.way(0);
+        check.due("count(1) behind an error", words.count(1), 2);
+        words.way(1);
         check.due("undo()", words.undo(), 0);
-        check.due("count(2)", words.count(2), 1);
+        check.due("count(2)", words.count(2), 0);
     }
 
     /** All that the calls tell, but the history and the text. */
@@ -228,6 +225,24 @@ public final class StoreTest {
             check.due(which + " changes nothing", all(words).equals(before) ? 1 : 0, 0);
             check.due("undo() of " + which, words.undo(), 1);
             check.due("undo() of " + which + " restores all", all(words).equals(before) ? 1 : 0, 1);
+        }
+    }
+
+    /** What is undone, or was only told, must not come in again with the next change. */
+    private void changeBehindUndo() {
+        check.promise(15);
+        for (String which : new String[] {"drop", "way", "step", "normal", "complete", "play"}) {
+            String text = "+ab>c;+ab>d;+c>a;=cab;";
+            FallingWords words = Check.played(text);
+            change(words, which);
+            String want = all(words);
+            words = Check.played(text);
+            Check.play(words, "=bbbb;-0;-0;-0;");
+            words.undo();
+            Check.write(words, "=bb;-0;-0;-0;n;");
+            words.fault(0);
+            change(words, which);
+            check.due(which + " behind undo and fault", all(words).equals(want) ? 1 : 0, 1);
         }
     }
 

@@ -172,6 +172,9 @@ public final class WordTest {
         for (int wild : Check.WILD) {
             check.due("next(" + wild + ") of a normal word", words.next(wild), Check.INVALID);
         }
+        words = Check.played("+a>c;=ab;");
+        check.due("next(0), rule 0 at place 0", words.next(0), 0);
+        check.due("next(1), rule 0 at place 0", words.next(1), 0);
         words = Check.played("+abcd>;=abcabcaabcda;");
         check.due("next(0)", words.next(0), 0);
         check.due("next(1)", words.next(1), 7);
@@ -297,5 +300,7 @@ public final class WordTest {
         check.due("reached(2) of 4096 without an end", words.reached(2), Check.LIMIT);
         words = Check.played("+a>b;+a>c;+a>d;+b>d;=aaaaaaaaaaaa;");
         check.due("reached(0) of very many", words.reached(0), Check.LIMIT);
+        Check.play(words, "=a;");
+        check.due("reached(0) behind very many", words.reached(0), 4);
     }
 }
