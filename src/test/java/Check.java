@@ -8,31 +8,62 @@ final class Check {
     /** Arguments that no call takes but letterAt and storeOf, which take the highest one. */
     static final int[] WILD = {Integer.MIN_VALUE, -1000004, -1, Integer.MAX_VALUE};
 
-    /** Counts a word of digits down to aa..a, so that steps are many: cbbd takes 100, cbca 101. */
+    /**
+     * Counts a word of digits down to aa..a, so that steps are many: cbbc takes 99, cbbd 100 and
+     * cbca 101.
+     */
     static final String COUNTER = "+ba>ad;+ca>bd;+da>cd;+b>a;+c>b;+d>c;w1;";
+
+    /** As many rules as there can be; the last one has the number 9. */
+    static final String TEN_RULES = "+a>;+b>;+c>;+d>;+aa>;+bb>;+cc>;+dd>;+ab>;+ba>;";
+
+    /** As many words as the store can have; the first one was put in longest ago. */
+    static final String EIGHT_STORED = "=a;n;=b;n;=c;n;=d;n;=aa;n;=bb;n;=cc;n;=dd;n;";
+
+    /** A word that reaches 400 words, one that reaches 401, and one that reaches 4096 and no end. */
+    static final String REACHES_400 = "+c>;+d>c;+bdd>;+a>b;=dcadcbcac;";
+    static final String REACHES_401 = "+ab>a;+ba>ab;=baaababaabaa;";
+    static final String REACHES_4096 = "+a>b;+b>a;=aaaaaaaaaaaa;";
 
     private int compared = 0;
     private int wrong = 0;
-    private String promise = "";
+    private int sentences = 0;
+    private String about = "";
 
     void promise(int number) {
-        promise = "promise " + number + ": ";
+        about = "promise " + number + ": ";
+    }
+
+    /** Runs the test of one sentence of the document, which must compare something. */
+    void sentence(String sentence, Runnable test) {
+        about = "\"" + sentence + "\": ";
+        sentences++;
+        int before = compared;
+        test.run();
+        if (compared == before) {
+            wrong++;
+            System.out.println(about + "nothing is compared");
+        }
     }
 
     void due(String call, int got, int want) {
+        due(call, got == want, String.valueOf(got), String.valueOf(want));
+    }
+
+    void dueText(String what, String got, String want) {
+        due(what, got.equals(want), got, want);
+    }
+
+    private void due(String call, boolean same, String got, String want) {
         compared++;
-        if (got != want) {
+        if (!same) {
             wrong++;
-            System.out.println(promise + call + " answered " + got + ", due is " + want);
+            System.out.println(about + call + " answered " + got + ", due is " + want);
         }
     }
 
     void dueWord(String when, FallingWords words, String want) {
-        compared++;
-        if (!word(words).equals(want)) {
-            wrong++;
-            System.out.println(promise + when + " the word is " + word(words) + ", due is " + want);
-        }
+        dueText(when + " the word", Told.word(words), want);
     }
 
     /** Letters as answers: those of a word, and NOT_FOUND behind them. */
@@ -42,12 +73,35 @@ final class Check {
         }
     }
 
+    /** Puts the text in; it has this fault, for which it can't be played. */
+    void dueFault(FallingWords words, String text, int position, int reason, int cause) {
+        write(words, text);
+        due("fault(0) of " + text, words.fault(0), position);
+        due("fault(1) of " + text, words.fault(1), reason);
+        due("fault(2) of " + text, words.fault(2), cause);
+        due("play() of " + text, words.play(), IMPOSSIBLE);
+    }
+
+    void dueFault(String text, int position, int reason, int cause) {
+        dueFault(new FallingWords(), text, position, reason, cause);
+    }
+
+    /** Puts the text in; it has no fault, and so many commands are played. */
+    void dueNoFault(FallingWords words, String text, int commands) {
+        write(words, text);
+        for (int what = 0; what <= 2; what++) {
+            due("fault(" + what + ") of " + text, words.fault(what), MISSING);
+        }
+        due("play() of " + text, words.play(), commands);
+    }
+
     int wrong() {
         return wrong;
     }
 
     void finish(String test) {
-        System.out.println(test + ": " + compared + " compared, " + wrong + " wrong");
+        System.out.println(test + ": " + (sentences > 0 ? sentences + " sentences, " : "") + compared
+                + " compared, " + wrong + " wrong");
         if (wrong != 0) {
             System.exit(1);
         }
@@ -68,18 +122,12 @@ final class Check {
         }
     }
 
-    /** A new object on which a text was played. */
-    static FallingWords played(String text) {
+    /** A new object on which texts were played, one behind the other. */
+    static FallingWords played(String... texts) {
         FallingWords words = new FallingWords();
-        play(words, text);
-        return words;
-    }
-
-    static String word(FallingWords words) {
-        StringBuilder letters = new StringBuilder();
-        for (int place = 0; words.letterAt(place) >= 0; place++) {
-            letters.append((char) ('a' + words.letterAt(place)));
+        for (String text : texts) {
+            play(words, text);
         }
-        return letters.toString();
+        return words;
     }
 }

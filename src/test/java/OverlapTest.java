@@ -183,7 +183,7 @@ public final class OverlapTest {
         check.due("complete(10) of doubtful pairs", words.complete(10), 0);
         words = new FallingWords();
         check.due("complete(1) without rules", words.complete(1), 0);
-        words = Check.played("+a>;+b>;+c>;+d>;+aa>;+ab>;+ba>;+bb>;+cc>;+dd>;");
+        words = Check.played(Check.TEN_RULES);
         check.due("complete(10) of ten rules", words.complete(10), 0);
     }
 

@@ -1,7 +1,5 @@
 /** Promises 11, 14 and 15: storeOf, count, undo. */
 public final class StoreTest {
-    private static final String EIGHT = "=a;n;=b;n;=c;n;=d;n;=aa;n;=bb;n;=cc;n;=dd;n;";
-
     private final Check check = new Check();
 
     public static void main(String[] args) {
@@ -80,7 +78,7 @@ public final class StoreTest {
 
     private void storeFull() {
         check.promise(11);
-        FallingWords words = Check.played(EIGHT);
+        FallingWords words = Check.played(Check.EIGHT_STORED);
         check.due("count(3)", words.count(3), 8);
         dueStored(words, 0, "dd", "dd");
         dueStored(words, 7, "a", "a");
@@ -179,25 +177,6 @@ public final class StoreTest {
         check.due("count(2)", words.count(2), 0);
     }
 
-    /** All that the calls tell, but the history and the text. */
-    private static String all(FallingWords words) {
-        StringBuilder told = new StringBuilder(Check.word(words));
-        for (int what = 0; what <= 8; what++) {
-            told.append(' ').append(words.count(what));
-        }
-        for (int rule = 0; rule < words.count(0); rule++) {
-            for (int what = 0; what < 24; what++) {
-                told.append(' ').append(words.ruleOf(rule, what));
-            }
-        }
-        for (int index = 0; index < words.count(3); index++) {
-            for (int what = 0; what < 34; what++) {
-                told.append(' ').append(words.storeOf(index, what));
-            }
-        }
-        return told.toString();
-    }
-
     private static int change(FallingWords words, String which) {
         switch (which) {
             case "drop":
@@ -220,11 +199,11 @@ public final class StoreTest {
         check.promise(15);
         for (String which : new String[] {"drop", "way", "step", "normal", "complete", "play"}) {
             FallingWords words = Check.played("+ab>c;+ab>d;+c>a;=cab;s;w1;=bb;n;=ca;n;=bb;n;=cab;");
-            String before = all(words);
+            String before = Told.state(words);
             check.due(which + " answers an error", change(words, which) < 0 ? 1 : 0, 0);
-            check.due(which + " changes nothing", all(words).equals(before) ? 1 : 0, 0);
+            check.due(which + " changes nothing", Told.state(words).equals(before) ? 1 : 0, 0);
             check.due("undo() of " + which, words.undo(), 1);
-            check.due("undo() of " + which + " restores all", all(words).equals(before) ? 1 : 0, 1);
+            check.dueText("undo() of " + which + " restores all", Told.state(words), before);
         }
     }
 
@@ -235,14 +214,14 @@ public final class StoreTest {
             String text = "+ab>c;+ab>d;+c>a;=cab;";
             FallingWords words = Check.played(text);
             change(words, which);
-            String want = all(words);
+            String want = Told.state(words);
             words = Check.played(text);
             Check.play(words, "=bbbb;-0;-0;-0;");
             words.undo();
             Check.write(words, "=bb;-0;-0;-0;n;");
             words.fault(0);
             change(words, which);
-            check.due(which + " behind undo and fault", all(words).equals(want) ? 1 : 0, 1);
+            check.dueText(which + " behind undo and fault", Told.state(words), want);
         }
     }
 

@@ -62,18 +62,6 @@ public final class TextTest {
         check.due("count(9), clearing is no change", words.count(9), 0);
     }
 
-    private void dueFault(FallingWords words, String text, int position, int reason, int cause) {
-        Check.write(words, text);
-        check.due("fault(0) of " + text, words.fault(0), position);
-        check.due("fault(1) of " + text, words.fault(1), reason);
-        check.due("fault(2) of " + text, words.fault(2), cause);
-        check.due("play() of " + text, words.play(), Check.IMPOSSIBLE);
-    }
-
-    private void dueFault(String text, int position, int reason, int cause) {
-        dueFault(new FallingWords(), text, position, reason, cause);
-    }
-
     private void faultOfForm() {
         check.promise(18);
         String[][] byCause = {
@@ -87,24 +75,24 @@ public final class TextTest {
         };
         for (int cause = 0; cause < byCause.length; cause++) {
             for (String text : byCause[cause]) {
-                dueFault(text, 0, 1, cause);
+                check.dueFault(text, 0, 1, cause);
             }
         }
     }
 
     private void faultOfFormFirst() {
         check.promise(18);
-        dueFault("=aaaaaaaaaaaaa", 0, 1, 14);
-        dueFault("=aaaaaaaaaaaaae;", 0, 1, 14);
-        dueFault("+aaaaa>b", 0, 1, 8);
-        dueFault("+aaaaa", 0, 1, 6);
-        dueFault("+a>bb", 0, 1, 5);
-        dueFault("+>", 0, 1, 2);
-        dueFault("-9", 0, 1, 2);
-        dueFault("w9", 0, 1, 2);
-        dueFault("=" + "d".repeat(79), 0, 1, 80);
-        dueFault("=" + "d".repeat(78) + ";", 0, 2, Check.MISSING);
-        dueFault("+" + "a".repeat(40) + ">" + "b".repeat(38), 0, 1, 80);
+        check.dueFault("=aaaaaaaaaaaaa", 0, 1, 14);
+        check.dueFault("=aaaaaaaaaaaaae;", 0, 1, 14);
+        check.dueFault("+aaaaa>b", 0, 1, 8);
+        check.dueFault("+aaaaa", 0, 1, 6);
+        check.dueFault("+a>bb", 0, 1, 5);
+        check.dueFault("+>", 0, 1, 2);
+        check.dueFault("-9", 0, 1, 2);
+        check.dueFault("w9", 0, 1, 2);
+        check.dueFault("=" + "d".repeat(79), 0, 1, 80);
+        check.dueFault("=" + "d".repeat(78) + ";", 0, 2, Check.MISSING);
+        check.dueFault("+" + "a".repeat(40) + ">" + "b".repeat(38), 0, 1, 80);
     }
 
     private void faultOfRange() {
@@ -112,58 +100,58 @@ public final class TextTest {
         String[] texts = {"=abcdabcdabcda;", "+abcda>;", "+abcd>abcda;", "+abcda>abcda;", "+>;", "+>a;", "-0;", "-9;",
             "w3;", "w9;", "+" + "a".repeat(70) + ">a;"};
         for (String text : texts) {
-            dueFault(text, 0, 2, Check.MISSING);
+            check.dueFault(text, 0, 2, Check.MISSING);
         }
-        dueFault("+a>b;-1;", 5, 2, Check.MISSING);
-        dueFault("+a>b;-0;-0;", 8, 2, Check.MISSING);
-        dueFault("w2;w3;", 3, 2, Check.MISSING);
+        check.dueFault("+a>b;-1;", 5, 2, Check.MISSING);
+        check.dueFault("+a>b;-0;-0;", 8, 2, Check.MISSING);
+        check.dueFault("w2;w3;", 3, 2, Check.MISSING);
         FallingWords words = Check.played("+a>b;+b>c;");
-        dueFault(words, "-0;-0;-0;", 6, 2, Check.MISSING);
+        check.dueFault(words, "-0;-0;-0;", 6, 2, Check.MISSING);
     }
 
     private void faultRefused() {
         check.promise(18);
-        dueFault("+a>bb;", 0, 3, 1);
-        dueFault("+abc>abcd;", 0, 3, 1);
-        dueFault("+a>a;", 0, 3, 1);
-        dueFault("+abcd>abcd;", 0, 3, 1);
-        dueFault("+a>b;+b>a;+a>b;", 10, 3, 2);
-        dueFault("s;", 0, 3, 4);
-        dueFault("+a>b;=a;s;s;", 10, 3, 4);
-        dueFault("+a>b;+b>a;=a;n;", 13, 3, 5);
-        dueFault(Check.COUNTER + "=cbca;n;", 45, 3, 5);
+        check.dueFault("+a>bb;", 0, 3, 1);
+        check.dueFault("+abc>abcd;", 0, 3, 1);
+        check.dueFault("+a>a;", 0, 3, 1);
+        check.dueFault("+abcd>abcd;", 0, 3, 1);
+        check.dueFault("+a>b;+b>a;+a>b;", 10, 3, 2);
+        check.dueFault("s;", 0, 3, 4);
+        check.dueFault("+a>b;=a;s;s;", 10, 3, 4);
+        check.dueFault("+a>b;+b>a;=a;n;", 13, 3, 5);
+        check.dueFault(Check.COUNTER + "=cbca;n;", 45, 3, 5);
         FallingWords words = Check.played("+a>;+b>;+c>;+d>;+aa>;+bb>;+cc>;+dd>;+ab>;");
-        dueFault(words, "+ba>;+ca>;", 5, 3, 3);
+        check.dueFault(words, "+ba>;+ca>;", 5, 3, 3);
         Check.play(words, "+ba>;");
-        dueFault(words, "+ca>;", 0, 3, 3);
-        dueFault(words, "+ba>;", 0, 3, 2);
+        check.dueFault(words, "+ca>;", 0, 3, 3);
+        check.dueFault(words, "+ba>;", 0, 3, 2);
         Check.write(words, "-0;+ca>;");
         check.due("fault(1), one is dropped ahead", words.fault(1), Check.MISSING);
     }
 
     private void faultRefusedFirstCause() {
         check.promise(18);
-        FallingWords words = Check.played("+a>;+b>;+c>;+d>;+aa>;+bb>;+cc>;+dd>;+ab>;+ba>;");
-        dueFault(words, "+ca>ca;", 0, 3, 1);
-        dueFault(words, "+ca>cad;", 0, 3, 1);
-        dueFault(words, "+ab>;", 0, 3, 2);
-        dueFault(words, "+ca>abcda;", 0, 2, Check.MISSING);
-        dueFault(words, "+>;", 0, 2, Check.MISSING);
-        dueFault(words, "s;", 0, 3, 4);
+        FallingWords words = Check.played(Check.TEN_RULES);
+        check.dueFault(words, "+ca>ca;", 0, 3, 1);
+        check.dueFault(words, "+ca>cad;", 0, 3, 1);
+        check.dueFault(words, "+ab>;", 0, 3, 2);
+        check.dueFault(words, "+ca>abcda;", 0, 2, Check.MISSING);
+        check.dueFault(words, "+>;", 0, 2, Check.MISSING);
+        check.dueFault(words, "s;", 0, 3, 4);
     }
 
     private void faultPosition() {
         check.promise(18);
-        dueFault("=ab;s;x", 4, 3, 4);
-        dueFault("=ab;x;s;", 4, 1, 0);
-        dueFault("w1;w0;;", 6, 1, 0);
-        dueFault("+a>b;=aa;s;s;s;", 13, 3, 4);
-        dueFault("n;n;n", 4, 1, 1);
-        dueFault("n;".repeat(39) + "n ", 78, 1, 1);
-        dueFault("n;".repeat(39) + "nn", 78, 1, 1);
-        dueFault("n;".repeat(39) + "s;", 78, 3, 4);
+        check.dueFault("=ab;s;x", 4, 3, 4);
+        check.dueFault("=ab;x;s;", 4, 1, 0);
+        check.dueFault("w1;w0;;", 6, 1, 0);
+        check.dueFault("+a>b;=aa;s;s;s;", 13, 3, 4);
+        check.dueFault("n;n;n", 4, 1, 1);
+        check.dueFault("n;".repeat(39) + "n ", 78, 1, 1);
+        check.dueFault("n;".repeat(39) + "nn", 78, 1, 1);
+        check.dueFault("n;".repeat(39) + "s;", 78, 3, 4);
         FallingWords words = Check.played("+a>b;=a;");
-        dueFault(words, "s;s;", 2, 3, 4);
+        check.dueFault(words, "s;s;", 2, 3, 4);
         Check.write(words, "s;");
         check.due("fault(0)", words.fault(0), Check.MISSING);
         words.step();

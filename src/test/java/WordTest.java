@@ -287,16 +287,16 @@ public final class WordTest {
 
     private void reachedLimit() {
         check.promise(10);
-        FallingWords words = Check.played("+c>;+d>c;+bdd>;+a>b;=dcadcbcac;");
+        FallingWords words = Check.played(Check.REACHES_400);
         check.due("reached(0), the most", words.reached(0), 400);
-        words = Check.played("+ab>a;+ba>ab;=baaababaabaa;");
+        words = Check.played(Check.REACHES_401);
         for (int what : new int[] {0, 1, 2, 3, 10, 21, 30, 41}) {
             check.due("reached(" + what + ") of 401", words.reached(what), Check.LIMIT);
         }
         for (int what : new int[] {-1, 4, 9, 22, 29, 42}) {
             check.due("reached(" + what + ") of 401", words.reached(what), Check.INVALID);
         }
-        words = Check.played("+a>b;+b>a;=aaaaaaaaaaaa;");
+        words = Check.played(Check.REACHES_4096);
         check.due("reached(2) of 4096 without an end", words.reached(2), Check.LIMIT);
         words = Check.played("+a>b;+a>c;+a>d;+b>d;=aaaaaaaaaaaa;");
         check.due("reached(0) of very many", words.reached(0), Check.LIMIT);
