@@ -1,3 +1,5 @@
+import java.util.function.IntUnaryOperator;
+
 /** Compares answers with what is due, and ends the test with exit code 1 if one differs. */
 final class Check {
     static final int INVALID = -1000001;
@@ -48,6 +50,19 @@ final class Check {
 
     void due(String call, int got, int want) {
         due(call, got == want, String.valueOf(got), String.valueOf(want));
+    }
+
+    /** Each of these arguments of the call answers the same. */
+    void dueForEach(String call, IntUnaryOperator answer, int want, int... arguments) {
+        for (int argument : arguments) {
+            due(call + " for " + argument, answer.applyAsInt(argument), want);
+        }
+    }
+
+    /** These arguments are out of the call's range, and so are those that no call takes. */
+    void dueInvalid(String call, IntUnaryOperator answer, int... arguments) {
+        dueForEach(call, answer, INVALID, arguments);
+        dueForEach(call, answer, INVALID, WILD);
     }
 
     void dueText(String what, String got, String want) {

@@ -7,8 +7,12 @@ final class Told {
 
     private static String letters(int most, IntUnaryOperator letterAt) {
         StringBuilder letters = new StringBuilder();
-        for (int k = 0; k < most && letterAt.applyAsInt(k) >= 0; k++) {
-            letters.append((char) ('a' + letterAt.applyAsInt(k)));
+        for (int k = 0; k < most; k++) {
+            int letter = letterAt.applyAsInt(k);
+            if (letter < 0) {
+                break;
+            }
+            letters.append((char) ('a' + letter));
         }
         return letters.toString();
     }
