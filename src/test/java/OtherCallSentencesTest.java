@@ -75,6 +75,7 @@ public final class OtherCallSentencesTest {
 
     private void undo() {
         check.sentence("Restores the latest state of the history, which is removed from it.", this::latestState);
+        check.sentence("Restores the latest state of the history", this::goesOnFromRestored);
         check.sentence("Returns the number of states that are left in the history", this::statesLeft);
         check.sentence("NOT_POSSIBLE if it is empty", this::emptyHistory);
     }
@@ -417,6 +418,26 @@ public final class OtherCallSentencesTest {
         check.dueWord("behind undo() of another change", words, "a");
         words.undo();
         check.dueWord("behind the last undo()", words, "");
+    }
+
+    /** What was undone must not come in again with the next change. */
+    private void goesOnFromRestored() {
+        FallingWords words = Check.played("+a>b;+b>c;=aa;", "w1;=bbb;-0;-0;");
+        words.undo();
+        check.due("drop(0)", words.drop(0), 1);
+        check.dueText("behind undo() and drop(0)", Told.rules(words) + " " + Told.word(words), "b>c aa");
+        words.undo();
+        check.due("normal()", words.normal(), 4);
+        check.dueText("behind undo() and normal()", Told.rules(words) + " " + Told.word(words), "a>b b>c cc");
+        words.undo();
+        check.due("way(2)", words.way(2), 0);
+        check.dueText("behind undo() and way(2)", Told.rules(words) + " " + Told.word(words), "a>b b>c aa");
+        words.undo();
+        check.due("step()", words.step(), 0);
+        check.dueWord("behind undo() and a step", words, "ba");
+        words.undo();
+        check.due("complete(1)", words.complete(1), 0);
+        check.dueWord("behind undo() and complete(1)", words, "aa");
     }
 
     private void statesLeft() {

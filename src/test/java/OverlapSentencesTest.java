@@ -11,6 +11,7 @@ public final class OverlapSentencesTest {
 
     private void overlaps() {
         check.sentence("An overlap of two rules (perhaps the same one twice)", this::sameOneTwice);
+        check.sentence("An overlap of two rules", this::ofRulesThatAreThere);
         check.sentence("is a word to which both apply, so that they cover it", this::coveredByBoth);
         check.sentence("either the second one at a place above 0", this::aboveZero);
         check.sentence("where the first one, at the place 0, still has a letter", this::stillHasALetter);
@@ -46,6 +47,18 @@ public final class OverlapSentencesTest {
         dueOverlaps("+abab>;", "0/0/2/6");
         dueOverlaps("+abca>;", "0/0/3/7");
         dueOverlaps("+aaaa>;", "0/0/1/5 0/0/2/6 0/0/3/7");
+    }
+
+    private void ofRulesThatAreThere() {
+        FallingWords words = Check.played("+b>;+ab>c;+bb>;");
+        check.dueText("overlaps", Told.overlaps(words, 0, 2), "1/0/1 1/2/1 2/0/0 2/0/1 2/2/1");
+        words.drop(2);
+        check.dueText("overlaps behind drop(2)", Told.overlaps(words, 0, 2), "1/0/1");
+        words.drop(1);
+        check.dueText("overlaps behind drop(1)", Told.overlaps(words, 0, 2), "");
+        words.undo();
+        check.dueText("overlaps behind undo()", Told.overlaps(words, 0, 2), "1/0/1");
+        check.dueText("overlaps of no rules", Told.overlaps(new FallingWords(), 0, 2), "");
     }
 
     private void coveredByBoth() {

@@ -52,6 +52,7 @@ public final class StoreSentencesTest {
 
     private void dueStore(String when, FallingWords words, String want) {
         check.dueText("store " + when, Told.store(words), want);
+        check.due("count(3) " + when, words.count(3), want.isEmpty() ? 0 : want.split(" ").length);
     }
 
     private void atMostEight() {

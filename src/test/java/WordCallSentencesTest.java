@@ -485,6 +485,11 @@ public final class WordCallSentencesTest {
         dueReached(1, "+a>b;+b>a;=aa;", 0);
         dueReached(1, "+a>b;+a>c;=aa;", 4);
         dueReached(1, "+a>b;+a>c;=aaaaa;", 32);
+        FallingWords words = Check.played("+a>b;+a>c;=aa;");
+        check.due("reached(1)", words.reached(1), 4);
+        check.due("reached(1) again", words.reached(1), 4);
+        Check.play(words, "=a;");
+        check.due("reached(1) of another word", words.reached(1), 2);
     }
 
     private void endLengths() {
@@ -495,6 +500,11 @@ public final class WordCallSentencesTest {
         dueReached(3, "=abcdabcdabcd;", 12);
         dueReached(2, "=;", 0);
         dueReached(3, "=;", 0);
+        FallingWords words = Check.played("=abcdabcdabcd;");
+        check.due("reached(3)", words.reached(3), 12);
+        Check.play(words, "=a;");
+        check.due("reached(2) of a shorter word", words.reached(2), 1);
+        check.due("reached(3) of a shorter word", words.reached(3), 1);
     }
 
     private void endLetters() {

@@ -136,16 +136,31 @@ public final class WordSentencesTest {
         check.due("rule 1 is applied", words.ruleOf(1, 4), 1);
     }
 
+    /** Of each rule the lengths of its sides. */
+    private static String lengths(FallingWords words) {
+        StringBuilder told = new StringBuilder();
+        for (int rule = 0; rule < words.count(0); rule++) {
+            told.append(rule == 0 ? "" : " ").append(words.ruleOf(rule, 0)).append('/').append(words.ruleOf(rule, 1));
+        }
+        return told.toString();
+    }
+
     private void numbersBehindDropped() {
-        String four = "+a>;+b>;+c>;+d>;";
-        String[] left = {"b> c> d>", "a> c> d>", "a> b> d>", "a> b> c>"};
+        String four = "+a>;+bc>d;+cda>bb;+dabc>cdab;";
+        String[] lengthsBehind = {"2/1 3/2 4/4", "1/0 3/2 4/4", "1/0 2/1 4/4", "1/0 2/1 3/2"};
+        String[] left = {"bc>d cda>bb dabc>cdab", "a> cda>bb dabc>cdab", "a> bc>d dabc>cdab", "a> bc>d cda>bb"};
         for (int rule = 0; rule < 4; rule++) {
             FallingWords words = Check.played(four);
             words.drop(rule);
             check.dueText("rules behind drop(" + rule + ")", Told.rules(words), left[rule]);
+            check.dueText("lengths behind drop(" + rule + ")", lengths(words), lengthsBehind[rule]);
             check.dueText("rules behind -" + rule, Told.rules(Check.played(four, "-" + rule + ";")), left[rule]);
         }
-        FallingWords words = Check.played(Check.TEN_RULES);
+        FallingWords words = Check.played("+ab>c;+dcb>da;=dcbdcb;");
+        words.drop(0);
+        check.due("step() of the rule that was behind it", words.step(), 0);
+        check.dueWord("behind the step", words, "dadcb");
+        words = Check.played(Check.TEN_RULES);
         words.drop(0);
         check.dueText("rules", Told.rules(words), "b> c> d> aa> bb> cc> dd> ab> ba>");
         words.drop(8);
