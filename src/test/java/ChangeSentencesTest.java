@@ -45,6 +45,7 @@ public final class ChangeSentencesTest {
     private void errorsInOrder() {
         check.sentence("If several errors apply to a call, INVALID_ARGUMENT is returned", this::invalidAheadOfLimit);
         check.sentence("If several errors apply to a call, INVALID_ARGUMENT is returned", this::invalidAheadOfNotFound);
+        check.sentence("NOT_POSSIBLE rather than LIMIT_REACHED", this::impossibleAheadOfLimit);
         check.sentence("and LIMIT_REACHED rather than NOT_FOUND", this::limitAheadOfNotFound);
     }
 
@@ -224,6 +225,14 @@ public final class ChangeSentencesTest {
         Check.play(words, "=c;");
         check.dueInvalid("reduced() of a ring", words::reduced, 5, 9, 22);
         check.dueInvalid("reached() without an end", words::reached, 4, 9, 22, 29, 42);
+    }
+
+    /** No other call can answer both, and none that answers NOT_POSSIBLE has an argument. */
+    private void impossibleAheadOfLimit() {
+        FallingWords words = Check.played(Check.COUNTER + "+aaaa>cbbc;=cbbc;");
+        check.due("normal() of a ring that is seen behind 100 steps", words.normal(), Check.IMPOSSIBLE);
+        words = Check.played(Check.COUNTER + "+aaaa>cbbd;=cbbd;");
+        check.due("normal() of a ring that would be seen behind 101 steps", words.normal(), Check.LIMIT);
     }
 
     private void limitAheadOfNotFound() {

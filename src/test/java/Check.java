@@ -81,10 +81,11 @@ final class Check {
         dueText(when + " the word", Told.word(words), want);
     }
 
-    /** Letters as answers: those of a word, and NOT_FOUND behind them. */
-    void dueLetters(String call, int[] got, String want) {
-        for (int k = 0; k < got.length; k++) {
-            due(call + ", letter " + k, got[k], k < want.length() ? want.charAt(k) - 'a' : MISSING);
+    /** The arguments from first on give these letters, and NOT_FOUND for the rest of the most there can be. */
+    void dueLetters(String call, IntUnaryOperator answer, int first, int most, String want) {
+        for (int k = 0; k < most; k++) {
+            int letter = k < want.length() ? want.charAt(k) - 'a' : MISSING;
+            due(call + " for " + (first + k), answer.applyAsInt(first + k), letter);
         }
     }
 

@@ -104,13 +104,6 @@ public final class OtherCallSentencesTest {
         check.sentence("NOT_POSSIBLE if it has a fault", this::playWithFault);
     }
 
-    private void dueLetters(String call, IntUnaryOperator answer, int first, String want) {
-        for (int k = 0; k < 12; k++) {
-            int due = k < want.length() ? want.charAt(k) - 'a' : Check.MISSING;
-            check.due(call + " for " + (first + k), answer.applyAsInt(first + k), due);
-        }
-    }
-
     private void indexesOfStore() {
         FallingWords words = Check.played("=a;n;=bb;n;=ccc;n;");
         check.due("storeOf(0, 0)", words.storeOf(0, 0), 3);
@@ -141,8 +134,9 @@ public final class OtherCallSentencesTest {
         String[] normals = {"bbd", "", "dbcddbcddbcd"};
         for (int i = 0; i < 3; i++) {
             int index = i;
-            dueLetters("storeOf(" + i + ", ..)", what -> words.storeOf(index, what), 10, stored[i]);
-            dueLetters("storeOf(" + i + ", ..)", what -> words.storeOf(index, what), 30, normals[i]);
+            IntUnaryOperator storeOf = what -> words.storeOf(index, what);
+            check.dueLetters("storeOf(" + i + ", ..)", storeOf, 10, 12, stored[i]);
+            check.dueLetters("storeOf(" + i + ", ..)", storeOf, 30, 12, normals[i]);
         }
     }
 

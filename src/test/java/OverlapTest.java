@@ -140,14 +140,8 @@ public final class OverlapTest {
     }
 
     private void dueRule(FallingWords words, int rule, String left, String right) {
-        int[] leftLetters = new int[4];
-        int[] rightLetters = new int[4];
-        for (int k = 0; k < 4; k++) {
-            leftLetters[k] = words.ruleOf(rule, 10 + k);
-            rightLetters[k] = words.ruleOf(rule, 20 + k);
-        }
-        check.dueLetters("left side of rule " + rule, leftLetters, left);
-        check.dueLetters("right side of rule " + rule, rightLetters, right);
+        check.dueLetters("ruleOf(" + rule + ", ..)", what -> words.ruleOf(rule, what), 10, 4, left);
+        check.dueLetters("ruleOf(" + rule + ", ..)", what -> words.ruleOf(rule, what), 20, 4, right);
     }
 
     private void complete() {

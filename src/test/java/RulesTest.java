@@ -104,14 +104,9 @@ public final class RulesTest {
             for (int what = 0; what < 5; what++) {
                 check.due("ruleOf(" + rule + ", " + what + ")", words.ruleOf(rule, what), numbers[rule][what]);
             }
-            int[] leftLetters = new int[4];
-            int[] rightLetters = new int[4];
-            for (int k = 0; k < 4; k++) {
-                leftLetters[k] = words.ruleOf(rule, 10 + k);
-                rightLetters[k] = words.ruleOf(rule, 20 + k);
-            }
-            check.dueLetters("left side " + rule, leftLetters, left[rule]);
-            check.dueLetters("right side " + rule, rightLetters, right[rule]);
+            int number = rule;
+            check.dueLetters("ruleOf(" + rule + ", ..)", what -> words.ruleOf(number, what), 10, 4, left[rule]);
+            check.dueLetters("ruleOf(" + rule + ", ..)", what -> words.ruleOf(number, what), 20, 4, right[rule]);
         }
     }
 

@@ -25,6 +25,7 @@ public final class StoreSentencesTest {
         check.sentence("if there are 9 then, the one goes for which the last time that it was put in or used is longest ago",
                 this::longestAgoGoes);
         check.sentence("the last time that it was put in or used", this::tellingIsNoUse);
+        check.sentence("the last time that it was put in or used", this::pairsAreNoUse);
     }
 
     private void taken() {
@@ -154,6 +155,20 @@ public final class StoreSentencesTest {
         check.due("count(4) behind telling", words.count(4), 0);
         Check.play(words, "=ab;n;");
         dueStore("behind a ninth", words, "ab>ab dd>dd cc>cc bb>bb aa>aa d>d c>c b>b");
+    }
+
+    /** The words of the pairs are in the store, but it is not the word that is reduced then. */
+    private void pairsAreNoUse() {
+        FallingWords words = Check.played("+ab>c;+ab>d;=c;n;=d;n;=b;n;");
+        words.overlapOf(0, 4);
+        words.count(7);
+        words.count(8);
+        dueStore("behind telling about pairs", words, "b>b d>d c>c");
+        check.due("count(4) behind telling about pairs", words.count(4), 0);
+        words = Check.played("+aa>a;=aa;n;=b;n;");
+        check.due("complete(10)", words.complete(10), 0);
+        dueStore("behind complete(10)", words, "b>b aa>a");
+        check.due("count(4) behind complete(10)", words.count(4), 0);
     }
 
     private void takenAtOnce() {

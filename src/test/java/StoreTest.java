@@ -23,14 +23,8 @@ public final class StoreTest {
         String told = "storeOf(" + index + ", ";
         check.due(told + "0)", words.storeOf(index, 0), word.length());
         check.due(told + "1)", words.storeOf(index, 1), normal.length());
-        int[] letters = new int[12];
-        int[] normals = new int[12];
-        for (int k = 0; k < 12; k++) {
-            letters[k] = words.storeOf(index, 10 + k);
-            normals[k] = words.storeOf(index, 30 + k);
-        }
-        check.dueLetters(told + "10 and on)", letters, word);
-        check.dueLetters(told + "30 and on)", normals, normal);
+        check.dueLetters(told + "..)", what -> words.storeOf(index, what), 10, 12, word);
+        check.dueLetters(told + "..)", what -> words.storeOf(index, what), 30, 12, normal);
     }
 
     private void storeOf() {

@@ -1,5 +1,3 @@
-import java.util.function.IntUnaryOperator;
-
 /** Each sentence of the promises 1 to 10 that names a boundary, by a test of its own. */
 public final class WordCallSentencesTest {
     private final Check check = new Check();
@@ -93,14 +91,6 @@ public final class WordCallSentencesTest {
         check.sentence("LIMIT_REACHED if they are more than 400", this::moreThanFourHundred);
         check.sentence("NOT_FOUND if there is no end", this::noEnd);
         check.sentence("NOT_FOUND if there is no end, or there are not so many letters", this::notSoManyEndLetters);
-    }
-
-    /** The arguments first and on give these letters, and NOT_FOUND for the rest. */
-    private void dueLetters(String call, IntUnaryOperator answer, int first, int most, String want) {
-        for (int k = 0; k < most; k++) {
-            int due = k < want.length() ? want.charAt(k) - 'a' : Check.MISSING;
-            check.due(call + " for " + (first + k), answer.applyAsInt(first + k), due);
-        }
     }
 
     private void emptyWordWithoutRules() {
@@ -243,10 +233,10 @@ public final class WordCallSentencesTest {
 
     private void sideLetters() {
         FallingWords words = Check.played("+abcd>dcba;+a>d;");
-        dueLetters("ruleOf(0, ..)", what -> words.ruleOf(0, what), 10, 4, "abcd");
-        dueLetters("ruleOf(0, ..)", what -> words.ruleOf(0, what), 20, 4, "dcba");
-        dueLetters("ruleOf(1, ..)", what -> words.ruleOf(1, what), 10, 4, "a");
-        dueLetters("ruleOf(1, ..)", what -> words.ruleOf(1, what), 20, 4, "d");
+        check.dueLetters("ruleOf(0, ..)", what -> words.ruleOf(0, what), 10, 4, "abcd");
+        check.dueLetters("ruleOf(0, ..)", what -> words.ruleOf(0, what), 20, 4, "dcba");
+        check.dueLetters("ruleOf(1, ..)", what -> words.ruleOf(1, what), 10, 4, "a");
+        check.dueLetters("ruleOf(1, ..)", what -> words.ruleOf(1, what), 20, 4, "d");
     }
 
     private void noSuchRule() {
@@ -339,8 +329,8 @@ public final class WordCallSentencesTest {
     }
 
     private void placesOfLetters() {
-        dueLetters("letterAt()", Check.played("=dcbaabcddcba;")::letterAt, 0, 13, "dcbaabcddcba");
-        dueLetters("letterAt()", Check.played("=d;")::letterAt, 0, 2, "d");
+        check.dueLetters("letterAt()", Check.played("=dcbaabcddcba;")::letterAt, 0, 13, "dcbaabcddcba");
+        check.dueLetters("letterAt()", Check.played("=d;")::letterAt, 0, 2, "d");
     }
 
     private void negativePlaces() {
@@ -435,9 +425,9 @@ public final class WordCallSentencesTest {
     }
 
     private void normalLetters() {
-        dueLetters("reduced()", Check.played("+a>b;=aaabcddcbaaa;")::reduced, 10, 12, "bbbbcddcbbbb");
-        dueLetters("reduced()", Check.played("+aa>b;=aaa;")::reduced, 10, 12, "ba");
-        dueLetters("reduced()", Check.played("+a>;=aaaaaaaaaaaa;")::reduced, 10, 12, "");
+        check.dueLetters("reduced()", Check.played("+a>b;=aaabcddcbaaa;")::reduced, 10, 12, "bbbbcddcbbbb");
+        check.dueLetters("reduced()", Check.played("+aa>b;=aaa;")::reduced, 10, 12, "ba");
+        check.dueLetters("reduced()", Check.played("+a>;=aaaaaaaaaaaa;")::reduced, 10, 12, "");
     }
 
     private void reducedNoneOfThese() {
@@ -509,11 +499,11 @@ public final class WordCallSentencesTest {
 
     private void endLetters() {
         FallingWords words = Check.played("+cd>da;+cd>b;=abcdbbbbabcd;");
-        dueLetters("reached()", words::reached, 10, 12, "abbbbbbabb");
-        dueLetters("reached()", words::reached, 30, 12, "abdabbbbabda");
+        check.dueLetters("reached()", words::reached, 10, 12, "abbbbbbabb");
+        check.dueLetters("reached()", words::reached, 30, 12, "abdabbbbabda");
         FallingWords empty = new FallingWords();
-        dueLetters("reached() of a new object", empty::reached, 10, 12, "");
-        dueLetters("reached() of a new object", empty::reached, 30, 12, "");
+        check.dueLetters("reached() of a new object", empty::reached, 10, 12, "");
+        check.dueLetters("reached() of a new object", empty::reached, 30, 12, "");
     }
 
     private void reachedNoneOfThese() {

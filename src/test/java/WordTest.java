@@ -180,14 +180,6 @@ public final class WordTest {
         check.due("next(1)", words.next(1), 7);
     }
 
-    private int[] reducedLetters(FallingWords words) {
-        int[] letters = new int[12];
-        for (int k = 0; k < 12; k++) {
-            letters[k] = words.reduced(10 + k);
-        }
-        return letters;
-    }
-
     private void dueReduced(String when, FallingWords words, int[] want) {
         for (int what = 0; what < want.length; what++) {
             check.due("reduced(" + what + ") " + when, words.reduced(what), want[what]);
@@ -199,7 +191,7 @@ public final class WordTest {
         FallingWords words = Check.played("+ab>b;+bb>c;=aabababd;");
         int[] want = {0, 5, Check.MISSING, Check.MISSING, 3};
         dueReduced("to cbd", words, want);
-        check.dueLetters("reduced word", reducedLetters(words), "cbd");
+        check.dueText("reduced word", Told.normalWord(words), "cbd");
         for (int what : new int[] {-1, 5, 9, 22, 30, Integer.MIN_VALUE, Integer.MAX_VALUE}) {
             check.due("reduced(" + what + ")", words.reduced(what), Check.INVALID);
         }
@@ -212,10 +204,10 @@ public final class WordTest {
         check.due("count(4), nothing is taken", words.count(4), 0);
         Check.play(words, "=abcdabcdabcd;-0;");
         dueReduced("of a normal word", words, new int[] {0, 0, Check.MISSING, Check.MISSING, 12});
-        check.dueLetters("reduced word", reducedLetters(words), "abcdabcdabcd");
+        check.dueText("reduced word", Told.normalWord(words), "abcdabcdabcd");
         Check.play(words, "+a>;+b>;+c>;+d>;");
         dueReduced("to the empty word", words, new int[] {0, 12, Check.MISSING, Check.MISSING, 0});
-        check.dueLetters("reduced word", reducedLetters(words), "");
+        check.dueText("reduced word", Told.normalWord(words), "");
     }
 
     private void reducedRings() {
@@ -240,7 +232,7 @@ public final class WordTest {
         check.due("reduced(10) of 101 steps", words.reduced(10), Check.MISSING);
         words = Check.played(Check.COUNTER + "=cbbd;");
         dueReduced("of 100 steps", words, new int[] {0, 100, Check.MISSING, Check.MISSING, 4});
-        check.dueLetters("reduced word", reducedLetters(words), "aaaa");
+        check.dueText("reduced word", Told.normalWord(words), "aaaa");
         words = Check.played(Check.COUNTER + "+aaaa>cbbd;=cbbd;");
         dueReduced("of a ring of 101", words, givenUp);
     }
@@ -250,14 +242,8 @@ public final class WordTest {
         for (int what = 0; what < want.length; what++) {
             check.due("reached(" + what + ") of " + text, words.reached(what), want[what]);
         }
-        int[] firstLetters = new int[12];
-        int[] lastLetters = new int[12];
-        for (int k = 0; k < 12; k++) {
-            firstLetters[k] = words.reached(10 + k);
-            lastLetters[k] = words.reached(30 + k);
-        }
-        check.dueLetters("first end of " + text, firstLetters, first);
-        check.dueLetters("last end of " + text, lastLetters, last);
+        check.dueLetters("first end of " + text, words::reached, 10, 12, first);
+        check.dueLetters("last end of " + text, words::reached, 30, 12, last);
         for (int what : new int[] {-1, 4, 9, 22, 29, 42, Integer.MIN_VALUE, Integer.MAX_VALUE}) {
             check.due("reached(" + what + ")", words.reached(what), Check.INVALID);
         }
