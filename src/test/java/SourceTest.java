@@ -29,7 +29,13 @@ public final class SourceTest {
         SourceTest test = new SourceTest();
         test.face();
         test.classesInside();
+        test.members(FallingWords.class);
+        for (Class<?> inside : FallingWords.class.getDeclaredClasses()) {
+            test.members(inside);
+        }
         test.text();
+        test.signs();
+        test.rowsAreMadeOnce();
         test.methodLengths();
         test.check.finish("SourceTest");
     }
@@ -62,9 +68,44 @@ public final class SourceTest {
         for (Class<?> one : inside) {
             check.due(one + " is static", Modifier.isStatic(one.getModifiers()) ? 1 : 0, 1);
             check.due(one + " is private", Modifier.isPrivate(one.getModifiers()) ? 1 : 0, 1);
-            check.due(one + " has not more than 20 fields", one.getDeclaredFields().length <= 20 ? 1 : 0, 1);
             for (Method method : one.getDeclaredMethods()) {
                 check.due(method + " bears no name of the face", CALLS.contains(method.getName()) ? 1 : 0, 0);
+            }
+        }
+    }
+
+    /** No static state, not too many fields beside the constants, nor parameters. */
+    private void members(Class<?> owner) {
+        int fields = 0;
+        for (Field field : owner.getDeclaredFields()) {
+            if (Modifier.isStatic(field.getModifiers())) {
+                boolean constant = Modifier.isFinal(field.getModifiers()) && field.getType() == int.class;
+                check.due(field + " is a constant", constant ? 1 : 0, 1);
+            } else {
+                fields++;
+            }
+        }
+        check.due(owner + " has not more than 20 fields beside constants", fields <= 20 ? 1 : 0, 1);
+        for (Method method : owner.getDeclaredMethods()) {
+            check.due(method + " has not more than 7 parameters", method.getParameterCount() <= 7 ? 1 : 0, 1);
+        }
+    }
+
+    private void signs() throws IOException {
+        for (byte sign : Files.readAllBytes(PROGRAM)) {
+            if (sign != '\n') {
+                check.due("the sign " + sign + " is a plain one", sign >= ' ' && sign < 127 ? 1 : 0, 1);
+            }
+        }
+    }
+
+    /** What a run makes is counted, so objects and arrays come with fields and a constructor alone. */
+    private void rowsAreMadeOnce() throws IOException {
+        for (String line : Files.readAllLines(PROGRAM)) {
+            if (line.contains(" new ")) {
+                boolean once = line.matches(" +private final \\S+ \\w+ = new .*")
+                        || line.trim().equals("states[i] = new State();");
+                check.due(line.trim() + " makes it once for an object", once ? 1 : 0, 1);
             }
         }
     }
